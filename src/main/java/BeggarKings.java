@@ -809,9 +809,7 @@ public final class BeggarKings {
                 text.advance();
                 verbs[count] = verb;
                 put(firsts, count, text.takeNumber(verb.lowest(0), verb.highest(0)));
-                if (verb.operands > 1) {
-                    put(seconds, count, text.takeNumber(verb.lowest(1), verb.highest(1)));
-                }
+                put(seconds, count, verb.operands > 1 ? text.takeNumber(verb.lowest(1), verb.highest(1)) : 0);
                 text.takeSemicolon();
                 count++;
             }
