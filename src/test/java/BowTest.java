@@ -91,6 +91,9 @@ public final class BowTest {
         Check.same("stiffest", x.stiffest(), 3);
         x.setPride(2, 40);
         Check.same("stiffest", x.stiffest(), 2);
+        x.swapRags(1, 2);
+        x.setPride(1, 40);
+        Check.same("stiffest", x.stiffest(), 1);
     }
 
     private static void theCheapestRags() {

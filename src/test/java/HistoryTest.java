@@ -2,6 +2,7 @@
 public final class HistoryTest {
     public static void main(String[] args) {
         everyChangeCanBeUndone();
+        aLaidCoinGoesBackToItsBank();
         theLatestEightChangesAreKept();
         changesThatAlterNothingCount();
         undoLeavesTheRest();
@@ -33,6 +34,28 @@ public final class HistoryTest {
             Check.same("state after undo " + i, Check.state(x), before);
         }
         Check.isTrue("the order of the queue is compared", before.contains("queue 0 2"));
+    }
+
+    private static void aLaidCoinGoesBackToItsBank() {
+        BeggarKings x = new BeggarKings();
+        x.layRoyalCoin(0, 0);
+        x.saveSnapshot();
+        x.liftRoyalCoin(0, 0);
+        x.joinQueue(0, 0);
+        x.passTurns(1);
+        x.layRoyalCoin(0, 0);
+        Check.same("isRoyalCoinEast", x.isRoyalCoinEast(0), true);
+        for (int i = 0; i < 4; i++) {
+            x.undo();
+        }
+        Check.same("isRoyalCoinEast after the undos", x.isRoyalCoinEast(0), false);
+        x.liftRoyalCoin(0, 0);
+        x.joinQueue(0, 0);
+        x.passTurns(1);
+        x.layRoyalCoin(0, 0);
+        x.restoreSnapshot();
+        Check.same("isRoyalCoinEast of the snapshot", x.isRoyalCoinEast(0), false);
+        Check.same("liftRoyalCoin", x.liftRoyalCoin(1, 0), 1);
     }
 
     private static void theLatestEightChangesAreKept() {

@@ -103,6 +103,7 @@ public final class ScriptTest {
         fault("game", 1, 0);
         fault("dro 1 1;", 1, 0);
         fault("drops 1 1;", 1, 0);
+        fault("xrop 1 1;", 1, 0);
         fault("Drop 1 1;", 1, 0);
         fault("drop", 1, 4);
         fault("drop ", 1, 5);

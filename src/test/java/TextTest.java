@@ -12,6 +12,7 @@ public final class TextTest {
         onlyTheFirstBytesAreRead();
         aLoadedGameIsAsItsTextTells();
         aLoadedGameStartsAfresh();
+        gamesReplaceOneAnother();
         aFaultyTextLeavesTheGame();
         theLatestParseErrorIsTold();
         blanksAndTokens();
@@ -105,6 +106,9 @@ public final class TextTest {
         Check.same("loadGame but for the last byte", x.loadGame(SMALL.length() - 1), -1);
         Check.same("errorCode", x.errorCode(), 1);
         Check.same("errorOffset", x.errorOffset(), SMALL.length() - 1);
+        Check.type(x, "games");
+        x.loadGame(4);
+        Check.same("errorOffset of a cut word", x.errorOffset(), 4);
         // a number that is cut by the length is the number that is left of it
         Check.type(x, "turn 12;");
         x.runScript(6);
@@ -152,13 +156,19 @@ public final class TextTest {
         x.dropCoins(3, 2);
         x.layRoyalCoin(3, 3);
         x.swapRags(0, 1);
-        x.joinQueue(1, 1);
-        x.joinQueue(2, 0);
+        x.joinQueue(0, 1);
         x.joinQueue(4, 3);
-        x.passTurns(3);
+        x.passTurns(1);
+        x.joinQueue(0, 1);
+        x.passTurns(1);
+        x.joinQueue(3, 0);
         x.joinQueue(0, 3);
+        x.joinQueue(1, 8);
         x.saveSnapshot();
         x.writeQueue(false);
+        Check.same("queueLength west", x.queueLength(false), 2);
+        Check.same("queueLength east", x.queueLength(true), 1);
+        Check.same("countedRoyalCoins", x.countedRoyalCoins(), 1);
         Check.load(x, SMALL);
         Check.same("state", Check.state(x), Check.state(Check.loaded(SMALL)));
         Check.same("turn", x.turn(), 0);
@@ -170,7 +180,19 @@ public final class TextTest {
         Check.badState("undo", () -> x.undo());
         Check.badState("restoreSnapshot", () -> x.restoreSnapshot());
         Check.badState("liftRoyalCoin: the coin is held again", () -> x.liftRoyalCoin(0, 0));
-        Check.same("the output stays", Check.output(x, 3), "0:3");
+        Check.same("the output stays", Check.output(x, 7), "1:8 0:3");
+    }
+
+    private static void gamesReplaceOneAnother() {
+        BeggarKings x = new BeggarKings();
+        Check.same("loadGame", Check.load(x, SMALL + BRIDGE), 3);
+        Check.same("loadGame", Check.load(x, "game 1 2 3 4;" + PEOPLE + PEOPLE + BRIDGE), 6);
+        Check.same("bridgeCount", x.bridgeCount(), 1);
+        Check.same("loadGame of a faulty text", Check.load(x, SMALL + "x"), -1);
+        Check.same("loadGame", Check.load(x, SMALL), 3);
+        Check.same("personCount", x.personCount(), 3);
+        Check.same("bridgeCount", x.bridgeCount(), 1);
+        Check.same("state", Check.state(x), Check.state(Check.loaded(SMALL)));
     }
 
     private static void aFaultyTextLeavesTheGame() {
@@ -224,6 +246,9 @@ public final class TextTest {
         fault("game" + "1a", 1, 5);
         fault("gamex 1", 1, 0);
         fault("gam 1", 1, 0);
+        fault("xame 1", 1, 0);
+        fault("gamez 1", 1, 0);
+        fault("gamea 1", 1, 0);
         fault("ga me 1", 1, 0);
         fault("Game 1", 1, 0);
         fault("gAme 1", 1, 0);
