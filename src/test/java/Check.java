@@ -8,8 +8,14 @@ final class Check {
 
     private static int checks = 0;
     private static int wrong = 0;
+    private static String subject = "";
 
     private Check() {
+    }
+
+    /** Names what the following checks are about, for the messages of those that fail. */
+    static void about(String what) {
+        subject = what.isEmpty() ? "" : what + ": ";
     }
 
     static void same(String what, long got, long due) {
@@ -68,7 +74,7 @@ final class Check {
 
     static void report(String message) {
         wrong++;
-        System.out.println(message);
+        System.out.println(subject + message);
     }
 
     /** Appends the text, filled up with spaces to a multiple of 20 bytes, and answers its length. */
@@ -123,6 +129,7 @@ final class Check {
             s.append(" [").append(g.isKing(p)).append(' ').append(g.isEast(p)).append(' ').append(g.coins(p));
             s.append(' ').append(g.pride(p)).append(' ').append(g.rags(p)).append(' ').append(g.rank(p));
             s.append(' ').append(g.crossings(p)).append(' ').append(g.offer(p)).append(' ').append(g.tollOf(p));
+            s.append(' ').append(g.cheapestRags(p)).append(' ').append(g.royalCoins(p)).append(' ').append(g.crossingObstacle(p));
             if (g.isKing(p)) {
                 s.append(' ').append(g.royalHolder(p)).append(' ').append(g.isRoyalCoinEast(p)).append(' ').append(g.isCounted(p));
             }
@@ -134,6 +141,9 @@ final class Check {
                 s.append(' ').append(g.queued(bank == 1, place));
             }
         }
+        s.append(" richest ").append(g.richest()).append(" wrong ").append(g.wrongGuesses()).append(" stiffest ").append(g.stiffest());
+        s.append(" mean ").append(g.meanBow()).append(" counted ").append(g.countedRoyalCoins()).append(" gap ").append(g.coinGap());
+        s.append(" banks ").append(g.bankCount(false)).append(' ').append(g.bankCount(true));
         s.append(" bridges ").append(g.bridgeCount()).append(" room ").append(g.room());
         for (int turns = 0; turns <= 20; turns++) {
             s.append(' ').append(g.tollBoxAfter(turns));
