@@ -282,7 +282,8 @@ final class TurnEdges {
         x.passTurns(1);
         for (int p = 0; p < 3; p++) {
             Check.same("offer " + p, x.offer(p), -1);
-            Check.badState("quitQueue " + p, () -> x.quitQueue(0));
+            int person = p;
+            Check.badState("quitQueue " + p, () -> x.quitQueue(person));
         }
         Check.same("queueLength", x.queueLength(true) + x.queueLength(false), 0);
         Check.same("passTurns: nobody goes back", x.passTurns(3), 0);
